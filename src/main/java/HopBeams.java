@@ -42,6 +42,8 @@ public final class HopBeams {
     private Search search;
     /** Made by the first call that needs it, as the search is. */
     private Tally tally;
+    /** What each cell counts in a sum over sets: its price or its weight. */
+    private final int[] worth = new int[MOST_CELLS];
     private int ruleNow;
     private int slot;
     private int litLast = NONE;
@@ -212,10 +214,12 @@ public final class HopBeams {
         }
         long needed = 0;
         for (int c = 0; c < land.size; c++) {
-            needed += land.cells[c].need * shelf.number(place, c);
+            int price = (int) shelf.number(place, c);
+            worth[c] = price;
+            needed += (long) land.cells[c].need * price;
         }
         legalSets.find(land);
-        long dearest = dearestSet(place);
+        long dearest = legalSets.sums[legalSets.worthiest(worth)];
         if (dearest == 0) {
             return needed == 0 ? 0 : NONE;
         }
@@ -299,7 +303,7 @@ public final class HopBeams {
         switch (what) {
             case 0: return land.room[gateway];
             case 1: return land.up[gateway] ? 1 : 0;
-            case 2: return land.usersOf(gateway, land.allCells());
+            case 2: return land.cellsOf(gateway);
             default: return NO_SUCH;
         }
     }
@@ -342,33 +346,10 @@ public final class HopBeams {
     }
 
     private int heaviestSet() {
-        land.weigh();
-        int best = 0;
-        int bestWeight = 0;
-        for (int i = 0; i < legalSets.size; i++) {
-            int set = legalSets.list[i];
-            int weight = land.weightOf(set);
-            // Sets come rising, so only a greater weight may take the least one's place.
-            if (weight > bestWeight) {
-                best = set;
-                bestWeight = weight;
-            }
+        for (int c = 0; c < land.size; c++) {
+            worth[c] = land.cells[c].weightIfLit();
         }
-        return best;
-    }
-
-    private long dearestSet(int place) {
-        long dearest = 0;
-        for (int i = 0; i < legalSets.size; i++) {
-            long sum = 0;
-            for (int c = 0; c < land.size; c++) {
-                if (contains(legalSets.list[i], c)) {
-                    sum += shelf.number(place, c);
-                }
-            }
-            dearest = Math.max(dearest, sum);
-        }
-        return dearest;
+        return legalSets.worthiest(worth);
     }
 
     private static boolean isWithin(long v, long least, long most) {
@@ -506,6 +487,10 @@ public final class HopBeams {
 
     /** The cells, the gateways and the terms: all that says which sets are legal. */
     private static final class Land {
+        /** At most ten cells are of one gateway: four bits of a number for each of them. */
+        private static final int USER_BITS = 4;
+        private static final int USER_MASK = 15;
+
         private final Cell[] cells = new Cell[MOST_CELLS];
         private int size;
         private final int[] room = {MOST_ROOM, MOST_ROOM, MOST_ROOM};
@@ -514,8 +499,6 @@ public final class HopBeams {
         private int limit = 100;
         private int latest = 8;
         private int hand = 2;
-        /** What each cell would weigh in this slot, so that it is told once for all sets. */
-        private final int[] weights = new int[MOST_CELLS];
 
         private boolean hasCell(int cell) {
             return cell >= 0 && cell < size;
@@ -530,35 +513,37 @@ public final class HopBeams {
                 return false;
             }
             int power = 0;
+            int users = 0;
             for (int c = 0; c < size; c++) {
                 if (contains(set, c)) {
-                    if ((cells[c].forbidden & set) != 0 || cells[c].handing > 0) {
+                    Cell cell = cells[c];
+                    if ((cell.forbidden & set) != 0 || cell.handing > 0 || !up[cell.gateway]) {
                         return false;
                     }
-                    power += cells[c].powerNow();
+                    power += cell.powerNow();
+                    users += 1 << USER_BITS * cell.gateway;
                 }
             }
-            return power <= limit && gatewaysAllow(set);
+            return power <= limit && haveRoom(users);
         }
 
-        private boolean gatewaysAllow(int set) {
+        private boolean haveRoom(int users) {
             for (int g = 0; g < GATEWAYS; g++) {
-                int users = usersOf(g, set);
-                if (users > room[g] || users > 0 && !up[g]) {
+                if ((users >> USER_BITS * g & USER_MASK) > room[g]) {
                     return false;
                 }
             }
             return true;
         }
 
-        private int usersOf(int gateway, int set) {
-            int users = 0;
+        private int cellsOf(int gateway) {
+            int n = 0;
             for (int c = 0; c < size; c++) {
-                if (contains(set, c) && cells[c].gateway == gateway) {
-                    users++;
+                if (cells[c].gateway == gateway) {
+                    n++;
                 }
             }
-            return users;
+            return n;
         }
 
         /** Any part of a legal set is legal, so a cell is in one if it is legal alone. */
@@ -583,22 +568,6 @@ public final class HopBeams {
             for (int c = 0; c < size; c++) {
                 cells[c].takeAsked();
             }
-        }
-
-        private void weigh() {
-            for (int c = 0; c < size; c++) {
-                weights[c] = cells[c].weightIfLit();
-            }
-        }
-
-        private int weightOf(int set) {
-            int weight = 0;
-            for (int c = 0; c < size; c++) {
-                if (contains(set, c)) {
-                    weight += weights[c];
-                }
-            }
-            return weight;
         }
 
         private void serve(int lit) {
@@ -630,6 +599,8 @@ public final class HopBeams {
         private final boolean[] isLegal = new boolean[ALL_SETS];
         private final int[] list = new int[MOST_LEGAL];
         private int size;
+        /** By set: what its cells were worth together when last asked for. */
+        private final int[] sums = new int[ALL_SETS];
 
         private void find(Land land) {
             size = 0;
@@ -645,6 +616,24 @@ public final class HopBeams {
 
         private boolean has(int set) {
             return set >= 0 && set < ALL_SETS && isLegal[set];
+        }
+
+        /** The set whose cells are worth most together; of several the least. */
+        private int worthiest(int[] worth) {
+            int best = 0;
+            int top = 0;
+            for (int i = 1; i < size; i++) {
+                int set = list[i];
+                while (top < MOST_CELLS - 1 && set >> top + 1 != 0) {
+                    top++;
+                }
+                // Without its top cell the set is legal too and less, so that sum is there.
+                sums[set] = sums[set & ~(1 << top)] + worth[top];
+                if (sums[set] > sums[best]) {
+                    best = set;
+                }
+            }
+            return best;
         }
 
         /** The cells any one of which could be put to the set. */

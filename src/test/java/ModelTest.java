@@ -11,7 +11,7 @@ import java.util.Set;
  * pair, rows of sets counted by what they have lit so far.
  */
 public final class ModelTest {
-    private static final int RUNS = 1500;
+    private static final int RUNS = 500;
     private static final int CALLS = 400;
 
     private static final class ModelCell {
@@ -834,8 +834,32 @@ public final class ModelTest {
         return wrong;
     }
 
+    /** A land at the edge of FULL, where a random one hardly ever comes to. */
+    private int edge(int[] needs, int... pairs) {
+        for (int c = 0; c < needs.length; c++) {
+            same("cell(1,1,1,0)", x.cell(1, 1, 1, 0), m.cell(1, 1, 1, 0));
+        }
+        for (int i = 0; i < pairs.length; i += 2) {
+            int a = pairs[i];
+            int b = pairs[i + 1];
+            same("forbid(" + a + "," + b + ",true)", x.forbid(a, b, true) ? 1 : 0, m.forbid(a, b, true) ? 1 : 0);
+        }
+        same("row", x.row(0, 0, needs.length), m.row(0, 0, needs.length));
+        for (int c = 0; c < needs.length; c++) {
+            same("write", x.write(0, c, needs[c]), m.write(0, c, needs[c]));
+        }
+        same("needs(0)", x.needs(0), m.needs(0));
+        same("fewest()", x.fewest(), m.fewest());
+        same("count(8)", x.count(8), m.count(8));
+        for (int i = 0; i <= m.frame.size(); i++) {
+            same("frame(" + i + ")", x.frame(i), i < m.frame.size() ? m.frame.get(i) : -1);
+        }
+        return wrong;
+    }
+
     public static void main(String[] args) {
-        int wrong = 0;
+        int wrong = new ModelTest(-1).edge(new int[] {8, 8, 6, 6, 9}, 1, 0, 4, 0, 4, 1, 4, 2);
+        wrong += new ModelTest(-2).edge(new int[] {6, 8, 7, 5, 6}, 1, 0, 4, 0, 4, 2);
         for (int run = 0; run < RUNS && wrong == 0; run++) {
             wrong += new ModelTest(run).wholeRun();
         }

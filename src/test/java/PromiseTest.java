@@ -32,6 +32,14 @@ public final class PromiseTest {
         return x;
     }
 
+    private static HopBeams withForbidden(int n, int... pairs) {
+        HopBeams x = withCells(n);
+        for (int i = 0; i < pairs.length; i += 2) {
+            due("forbid", x.forbid(pairs[i], pairs[i + 1], true), true);
+        }
+        return x;
+    }
+
     private static void newObject() {
         HopBeams x = new HopBeams();
         long[] counts = {0, 2, 100, 8, 2, 0, 0, 0, 0, 0};
@@ -330,6 +338,18 @@ public final class PromiseTest {
         y.needs(0);
         due("nothing", y.fewest(), 0);
         due("states", y.count(8), 0);
+        HopBeams just = withForbidden(5, 1, 0, 4, 0, 4, 1, 4, 2);
+        lay(just, 0, 8, 8, 6, 6, 9);
+        just.needs(0);
+        due("just 5000 states", just.fewest(), 25);
+        due("states", just.count(8), 5000);
+        due("frame", just.count(7), 25);
+        HopBeams over = withForbidden(5, 1, 0, 4, 0, 4, 2);
+        lay(over, 0, 6, 8, 7, 5, 6);
+        over.needs(0);
+        due("one state more than 5000", over.fewest(), -4);
+        due("states", over.count(8), 5000);
+        due("frame", over.count(7), 0);
     }
 
     private static void frame() {
