@@ -186,6 +186,7 @@ public final class PromiseTest {
         due("go", x.go(1), 1);
         due("yet", x.cellOf(0, 3), 1);
         due("not legal", x.legal(1), 0);
+        due("being handed in its last slot", x.swap(0, 2), -7);
         due("go", x.go(1), 2);
         due("yet", x.cellOf(0, 3), 0);
         due("legal", x.legal(1), 1);
@@ -304,8 +305,25 @@ public final class PromiseTest {
         x.gateway(0, 10, true);
         x.swap(3, 1);
         due("what needs nothing may be barred", x.fewest(), 2);
-        x.swap(0, 1);
+        x.swap(1, 1);
         due("being handed over", x.fewest(), HopBeams.NONE);
+        HopBeams y = withCells(2);
+        lay(y, 0, 1, 0);
+        y.needs(0);
+        due("one cell", y.fewest(), 1);
+        due("its set", y.frame(0), 1);
+        due("states", y.count(8), 1);
+        lay(y, 0, 1, 1);
+        y.needs(0);
+        due("together", y.fewest(), 1);
+        due("both", y.frame(0), 3);
+        y.forbid(0, 1, true);
+        due("one by one", y.fewest(), 2);
+        due("the first", y.frame(0), 1);
+        due("the second", y.frame(1), 2);
+        y.forbid(0, 1, false);
+        due("together again", y.fewest(), 1);
+        due("both", y.frame(0), 3);
     }
 
     /** One beam: a state for each row of what may lack; the end is come to last of all. */
@@ -443,6 +461,7 @@ public final class PromiseTest {
         // Two cells, each free of the other: (2^n - 1)^2.
         dueWays(x, 1, "1");
         dueWays(x, 2, "9");
+        dueWays(x, 3, "49");
         dueWays(x, 24, "281474943156225");
         x.forbid(0, 1, true);
         // 3^n - 2 * 2^n + 1.
@@ -456,6 +475,11 @@ public final class PromiseTest {
         due("the latest stays", x.digit(1), 5);
         x.gateway(0, 0, true);
         dueWays(x, 24, "0");
+        HopBeams wide = withCells(10);
+        wide.terms(4, 1000, 8, 2);
+        dueWays(wide, 2, "0");
+        dueWays(wide, 3, "372750");
+        dueWays(wide, 24, "119637554742610459402924004122340110438295940125160620979739500");
     }
 
     private static void digit() {
@@ -664,6 +688,12 @@ public final class PromiseTest {
         x.rain(0, 1);
         x.go(1);
         due("rate now", x.units(0, 1), 15);
+        HopBeams y = withCells(1);
+        lay(y, 0, 1);
+        y.asks(0);
+        y.go(1);
+        due("one unit waits", y.cellOf(0, 6), 1);
+        due("it is one slot old", y.cellOf(0, 7), 1);
     }
 
     private static void count() {
@@ -799,6 +829,9 @@ public final class PromiseTest {
         dueFrame(x, 1, 0, 0, 0);
         due("paste", x.paste(0, 3, 1, 1, 2), 0);
         dueFrame(x, 1, 0, 4, 5);
+        due("to the first", x.paste(0, 2, 1, 0, 1), 0);
+        dueFrame(x, 1, 3, 4, 5);
+        due("none from behind the end on", x.paste(0, 6, 1, 0, 0), -6);
         dueFrame(x, 0, 1, 2, 3, 4, 5);
         due("its own, upwards", x.paste(0, 0, 0, 1, 4), 0);
         dueFrame(x, 0, 1, 1, 2, 3, 4);
