@@ -57,6 +57,8 @@ public final class LanguageTest {
         }
         must(fields <= 20, "11: twenty fields: " + type);
         for (Method m : type.getDeclaredMethods()) {
+            must(type == HopBeams.class || !List.of(FACE).contains(m.getName()),
+                    "1: no private method bears a public name: " + m);
             must(m.getParameterCount() <= 7, "11: seven parameters: " + m);
         }
     }

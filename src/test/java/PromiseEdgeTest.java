@@ -316,8 +316,15 @@ public final class PromiseEdgeTest extends Sentences {
         due("the last", x.frame(26), 4);
         due("none", x.frame(27), NONE);
         dueLit(x, 1, 1, 1, 1, 1, 1, 1, 1, 1, 2);
-        x.swap(2, 1);
+    }
+
+    private static void noFewest() {
         says("12", "NONE: some CELL that needs is in no LEGAL set;");
+        HopBeams x = cells(3);
+        x.terms(1, 100, 8, 2);
+        needs(x, 9, 9, 9);
+        due("each is in one", x.fewest(), 27);
+        x.swap(2, 1);
         due("handed over", x.fewest(), NONE);
         due("the frame", x.count(7), 27);
         due("states", x.count(8), 0);
@@ -348,6 +355,9 @@ public final class PromiseEdgeTest extends Sentences {
             due("now it is in one", ten.fewest(), 1);
             dueFrame(ten, 1 << barred);
         }
+    }
+
+    private static void fullFewest() {
         says("12", "-4: FULL (the FRAME stays in both).");
         HopBeams y = cells(10);
         frame(y, 5, 6);
@@ -402,6 +412,9 @@ public final class PromiseEdgeTest extends Sentences {
         due("they are those that the row had", x.frame(0), 1);
         due("60 numbers", x.row(0, 0, 60), 0);
         due("frameOf", x.frameOf(0), 12);
+    }
+
+    private static void refusedFrames() {
         says("14", "-2: there is no such PLACE;");
         for (int none : new int[] {-1, 4, BIG, SMALL}) {
             refuse("place " + none, -2, o -> o.frameOf(none));
@@ -658,6 +671,14 @@ public final class PromiseEdgeTest extends Sentences {
         needs(x, 0, 0, 0);
         due("nothing lacks", x.fewest(), 0);
         due("without that one", x.count(8), 0);
+        countAtFullAndEmpty();
+        says("23", "NONE for others.");
+        for (int other : new int[] {-1, 10, BIG, SMALL}) {
+            refuse("count(" + other + ")", NONE, o -> o.count(other));
+        }
+    }
+
+    private static void countAtFullAndEmpty() {
         HopBeams y = cells(10);
         needs(y, 9, 9, 9, 9, 9, 9, 9, 9, 9, 9);
         due("full", y.fewest(), -4);
@@ -673,10 +694,6 @@ public final class PromiseEdgeTest extends Sentences {
         due("refused", z.count(9), 4);
         z.tear(0);
         due("torn", z.count(9), 3);
-        says("23", "NONE for others.");
-        for (int other : new int[] {-1, 10, BIG, SMALL}) {
-            refuse("count(" + other + ")", NONE, o -> o.count(other));
-        }
     }
 
     private static void promiseOfGatewayOf() {
@@ -894,8 +911,11 @@ public final class PromiseEdgeTest extends Sentences {
         promiseOfLegal();
         promiseOfSets();
         promiseOfFewest();
+        noFewest();
+        fullFewest();
         promiseOfFrame();
         promiseOfFrameOf();
+        refusedFrames();
         promiseOfProof();
         promiseOfWays();
         promiseOfDigit();

@@ -363,7 +363,9 @@ public final class TermsEdgeTest extends Sentences {
         }
         due("only the first: 9 by 1", proofBy(most, 1, 0, 0, 0, 0, 0, 0, 0, 0, 0), 9);
         due("81000009 by 1", proofBy(most, 1, m, m, m, m, m, m, m, m, m), 81000009);
+    }
 
+    private static void proofsByNothing() {
         says("II", "no bound if that sum is 0 and the first is not;");
         HopBeams y = cells(2);
         needs(y, 1, 0);
@@ -504,7 +506,9 @@ public final class TermsEdgeTest extends Sentences {
         dueLit(ten, 512);
         asks(ten, 1, 1, 1, 1, 1, 1, 1, 1, 1, 9);
         dueLit(ten, 513);
+    }
 
+    private static void weight() {
         says("III", "WEIGHT is the sum over its CELLS of CLASS times the units it could send.");
         HopBeams y = new HopBeams();
         y.terms(1, 100, 1, 0);
@@ -722,10 +726,12 @@ public final class TermsEdgeTest extends Sentences {
         fewestSteps();
         fewestEdges();
         proofs();
+        proofsByNothing();
         waysOfRows();
         unitsThatCome();
         setOfTheFrame();
         setOfTheWeight();
+        weight();
         sending();
         growingOld();
         lessLatest();
