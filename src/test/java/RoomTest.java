@@ -17,8 +17,9 @@ public final class RoomTest {
         }
     }
 
+    /** With those that make the land these are 508 calls: an object may be used for 512. */
     private static void dearCalls(HopBeams x) {
-        for (int k = 0; k < 70; k++) {
+        for (int k = 0; k < 69; k++) {
             x.fewest();
             x.ways(24);
             x.go(200);
@@ -54,7 +55,7 @@ public final class RoomTest {
         before = made();
         dearCalls(wideLand());
         long whole = made() - before;
-        must(whole < 160000, "an object with 500 of the dearest calls", whole);
+        must(whole < 160000, "an object with 483 of the dearest calls", whole);
         System.out.println(wrong == 0 ? "the room is kept: " + empty + " and " + whole + " bytes" : "the room is not kept");
         if (wrong != 0) {
             System.exit(1);
