@@ -48,6 +48,27 @@ public final class LanguageTest {
         must(Modifier.isFinal(HopBeams.class.getModifiers()), "1: final");
     }
 
+    /** The face line by line as the document writes it, and nothing else that is public. */
+    private static void faceOfDocument(String code) throws IOException {
+        String document = Files.readString(Path.of("../shared/DOC.md"));
+        int from = document.indexOf("public final class HopBeams {");
+        int to = from < 0 ? -1 : document.indexOf("```", from);
+        must(to > 0, "1: the document has a face");
+        String flat = code.replaceAll("\\s+", " ");
+        int due = 0;
+        for (String line : to > 0 ? document.substring(from, to).split("\n") : new String[0]) {
+            String member = line.strip();
+            if (member.startsWith("public ")) {
+                due++;
+                String head = member.contains(" = ") || !member.endsWith(";") ? member
+                        : member.substring(0, member.length() - 1) + " {";
+                must(flat.contains(head), "1: the face as the document has it: " + member);
+            }
+        }
+        int seen = flat.split("\\b(?:public|protected)\\b", -1).length - 1;
+        must(due == seen, "1: " + due + " public members in the document, " + seen + " in the class");
+    }
+
     private static void members(Class<?> type) {
         int fields = 0;
         for (Field f : type.getDeclaredFields()) {
@@ -95,6 +116,7 @@ public final class LanguageTest {
     public static void main(String[] args) throws IOException {
         String code = withoutComments(Files.readString(Path.of("src/main/java/HopBeams.java")));
         face();
+        faceOfDocument(code);
         List<Class<?>> types = new ArrayList<>(List.of(HopBeams.class.getDeclaredClasses()));
         must(types.size() < 12, "11: twelve classes");
         for (Class<?> type : types) {
